@@ -239,7 +239,13 @@ public final class BridgeHouse {
             return BAD;
         }
         for (int i = 0; i < n; i++) {
-            passYear();
+            year++;
+            lapsePurses();
+            bringGiftsOfYear();
+            bringTolls();
+            bringRents();
+            bridge.sufferYear(sheets[FLOODS].inYear(year));
+            keepUp();
         }
         return year;
     }
@@ -353,16 +359,6 @@ public final class BridgeHouse {
         int done = takeCoins(WORKS_AT_0 + arch, coins);
         bridge.arches[arch].mend(done);
         return done;
-    }
-
-    private void passYear() {
-        year++;
-        lapsePurses();
-        bringGiftsOfYear();
-        bringTolls();
-        bringRents();
-        bridge.sufferYear(sheets[FLOODS].inYear(year));
-        keepUp();
     }
 
     private void lapsePurses() {
@@ -752,14 +748,18 @@ public final class BridgeHouse {
         private int lapsed;
 
         boolean isOpen(int year) {
-            return isWithin(year, from, till);
+            return year >= from && year <= till;
         }
 
         boolean isDue(int year) {
             return year == from || yearly == 1 && isOpen(year);
         }
 
-        boolean serves(int spendingEnd) {
+        boolean canPay(int spendingEnd, int year) {
+            return coins > 0 && isOpen(year) && serves(spendingEnd);
+        }
+
+        private boolean serves(int spendingEnd) {
             switch (end) {
                 case FOR_ALL: return true;
                 case FOR_WORKS: return spendingEnd >= WORKS_AT_0;
@@ -840,19 +840,15 @@ public final class BridgeHouse {
         int coinsFor(int end, int year) {
             int coins = 0;
             for (int p = 0; p < size; p++) {
-                coins += canPay(p, end, year) ? purses[p].coins : 0;
+                coins += purses[p].canPay(end, year) ? purses[p].coins : 0;
             }
             return coins;
-        }
-
-        private boolean canPay(int p, int end, int year) {
-            return purses[p].coins > 0 && purses[p].isOpen(year) && purses[p].serves(end);
         }
 
         int nextToPay(int end, int year) {
             int next = NO_PURSE;
             for (int p = 0; p < size; p++) {
-                if (canPay(p, end, year) && (next == NO_PURSE || purses[p].paysAheadOf(purses[next]))) {
+                if (purses[p].canPay(end, year) && (next == NO_PURSE || purses[p].paysAheadOf(purses[next]))) {
                     next = p;
                 }
             }

@@ -15,6 +15,8 @@ public final class BridgeTest {
         fall();
         told();
         toldLimits();
+        toldWithWheels();
+        fullBridge();
         spentAtArch();
         Checks.end();
     }
@@ -204,6 +206,46 @@ public final class BridgeTest {
         Checks.due("told in just 200", z.about(1, 6), 200);
         z.years(20);
         Checks.due("fallen in 200", z.about(1, 4), 1);
+    }
+
+    private static void toldWithWheels() {
+        BridgeHouse x = Checks.houseWith(2, 0);
+        Checks.fill(x, 0, 1, 200, 100);
+        x.set(1, 1, 1);
+        // Wood loses 25 and 110 a year, the arch 10 and 110; with two wheels wood loses 25 and 120.
+        Checks.due("told of wood beside a wheel", x.about(0, 6), 8);
+        Checks.due("told of the arch with the wheel", x.about(1, 6), 9);
+        x.set(0, 1, 1);
+        Checks.due("told of wood among two wheels", x.about(0, 6), 7);
+        Checks.due("asking keeps wheels", x.about(1, 3), 1);
+    }
+
+    private static void fullBridge() {
+        BridgeHouse x = Checks.houseWith(0, 1, 2, 3, 0, 1, 2, 3, 0, 3);
+        for (int a = 0; a < 10; a++) {
+            x.set(a, 0, 4);
+            x.set(a, 1, 1);
+        }
+        Checks.fill(x, 0, 0, 200, 3);
+        // 3 * 20 / 10 is 6; a draw loses 82 and 6.
+        Checks.due("loss among ten wheels", x.about(9, 5), 88);
+        Checks.due("told of the last", x.about(9, 6), 12);
+        Checks.due("houses of ten", x.count(6), 40);
+        x.rule(3, 100);
+        x.rule(4, 10);
+        x.rule(5, 1000);
+        for (int i = 0; i < 4; i++) {
+            x.years(50);
+        }
+        Checks.due("no flood in year 200", x.about(9, 5), 82);
+        for (int a = 0; a < 10; a++) {
+            Checks.due("ten crews keep arch " + a, x.about(a, 1), 1000);
+        }
+        BridgeHouse y = Checks.houseWith(1, 1, 1, 1, 1, 1, 1, 1, 1, 1);
+        y.rule(2, 5);
+        Checks.fill(y, 3, 0, 2, 9);
+        y.years(1);
+        Checks.due("no toll of boats without a draw", y.roll(1, 1), 0);
     }
 
     private static void spentAtArch() {

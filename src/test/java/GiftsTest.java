@@ -99,6 +99,8 @@ public final class GiftsTest {
         Checks.gives(x, "+1 for all", -100);
         Checks.gives(x, "1. for all", -100);
         Checks.gives(x, "1x for all", -100);
+        Checks.gives(x, "1: for all", -100);
+        Checks.gives(x, "1/ for all", -100);
         Checks.gives(x, "1 for arch -0", -111);
     }
 
@@ -171,6 +173,10 @@ public final class GiftsTest {
         Checks.gives(x, "1 for poorer", -106);
         Checks.due("count(2)", x.count(2), 20);
         Checks.due("sum()", x.sum(), 19);
+        x.years(1);
+        Checks.due("spent of all twenty", x.spend(0, 19), 19);
+        Checks.due("a row of each", x.count(3), 19);
+        Checks.due("the last row's purse", x.row(18, 1), 19);
     }
 
     private static void coming() {

@@ -280,5 +280,11 @@ public final class SpendingTest {
         x.years(1);
         Checks.due("as many coins as there are", x.about(1, 7), 3);
         Checks.due("are spent", x.about(1, 1), 996);
+        // Of the first arch's 3 coins 2 went in year 1 and 1 in year 2, when 2 were wanted.
+        Checks.due("roll of year 1", x.roll(1, 5), 2);
+        Checks.due("roll of year 2", x.roll(2, 5), 1);
+        x.rule(4, 3);
+        x.years(2);
+        Checks.due("each year chooses anew", x.about(2, 7), 4 + 2);
     }
 }
