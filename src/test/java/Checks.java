@@ -1,8 +1,6 @@
 import java.nio.charset.StandardCharsets;
-import java.util.ArrayList;
-import java.util.List;
 
-/** What the tests of the project have in common: due answers, texts for the tape, and pictures of an object. */
+/** What the tests of the project have in common: due answers, and texts for the tape. */
 final class Checks {
     private static int made = 0;
     private static int wrong = 0;
@@ -47,7 +45,8 @@ final class Checks {
         due("trim for '" + text + "'", x.trim(bytes.length), bytes.length);
     }
 
-    private static int four(byte[] bytes, int at) {
+    /** The number that feeds four bytes of a text, from a place on; behind its end there are zeros. */
+    static int four(byte[] bytes, int at) {
         int number = 0;
         for (int i = at; i < at + 4; i++) {
             number = number << 8 | (i < bytes.length ? bytes[i] & 255 : 0);
@@ -78,31 +77,5 @@ final class Checks {
         for (int i = 0; i < n; i++) {
             x.enter(sheet, i, v);
         }
-    }
-
-    /** All that can be asked of an object without changing it. */
-    static List<Integer> picture(BridgeHouse x) {
-        List<Integer> seen = new ArrayList<>();
-        for (int what = 0; what < 8; what++) {
-            seen.add(x.count(what));
-            for (int i = 0; i < 20; i++) {
-                seen.add(x.about(i, what));
-                seen.add(x.purse(i, what));
-                seen.add(x.roll(x.count(4), what));
-            }
-        }
-        for (int end = 0; end < 12; end++) {
-            seen.add(x.funds(end));
-            for (int i = 0; i < 20; i++) {
-                seen.add(x.spent(i, end));
-            }
-        }
-        for (int i = 0; i < 200; i++) {
-            for (int what = 0; what < 4; what++) {
-                seen.add(x.row(i, what));
-            }
-        }
-        seen.add(x.sum());
-        return seen;
     }
 }

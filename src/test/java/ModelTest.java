@@ -1,10 +1,11 @@
+import java.nio.charset.StandardCharsets;
 import java.util.ArrayList;
 import java.util.List;
 import java.util.Random;
 
 /** Random runs of calls, each answer held against the one of Model; what is refused must change nothing. */
 public final class ModelTest {
-    private static final int RUNS = 400, CALLS = 512;
+    private static final int RUNS = 600, LONGEST_TURN = 8;
     private static final int[] EDGES = {Integer.MIN_VALUE, -1000000001, -101, -1, 0, 1, 2, 10, 19, 20, 48, 100, 101, 199,
         200, 201, 1000, 1001, 100000, 100001, Integer.MAX_VALUE};
     private static final String[] WORDS = {"for", "all", "works", "poor", "chapel", "arch", "from", "till", "yearly", "x",
@@ -13,7 +14,7 @@ public final class ModelTest {
     private final Random random;
     private final BridgeHouse house = new BridgeHouse();
     private final Model model = new Model();
-    private final List<String> told = new ArrayList<>();
+    private final List<Call> past = new ArrayList<>();
 
     private ModelTest(long seed) {
         random = new Random(seed);
@@ -28,22 +29,19 @@ public final class ModelTest {
 
     private void go(int run) {
         begin(run);
-        for (int call = 0; call < CALLS && !Checks.isAnyWrong(); call++) {
-            List<Integer> before = call % 16 == 0 ? Checks.picture(house) : null;
+        while (past.size() <= Run.MOST_CALLS - LONGEST_TURN && !Checks.isAnyWrong()) {
             int answer = one(random.nextInt(100));
-            if (before != null && isRefusal(answer)) {
-                Checks.holds("a refused call changes nothing: " + told.get(told.size() - 1),
-                    before.equals(Checks.picture(house)) || told.get(told.size() - 1).startsWith("gift"));
+            Call last = past.get(past.size() - 1);
+            // Behind a long past few questions have room, so that very many objects would be needed.
+            if (past.size() < 300 && random.nextInt(8) == 0 && last.isRefusal(answer)) {
+                Checks.holds("a refused call changes nothing: " + last.told(),
+                    Unchanged.isUnchanged(past.subList(0, past.size() - 1), last));
             }
         }
         if (Checks.isAnyWrong()) {
             System.out.println("  run " + run + ", its last calls:");
-            told.subList(Math.max(0, told.size() - 12), told.size()).forEach(c -> System.out.println("    " + c));
+            past.subList(Math.max(0, past.size() - 12), past.size()).forEach(c -> System.out.println("    " + c.told()));
         }
-    }
-
-    private static boolean isRefusal(int answer) {
-        return answer <= BridgeHouse.BAD;
     }
 
     /** Some runs start with a bridge that is rich and long-lived, so that books fill and purses run dry. */
@@ -59,8 +57,11 @@ public final class ModelTest {
         }
         for (int s = 0; s < 4; s++) {
             held("sheet", s, random.nextInt(3), random.nextInt(201));
-            for (int i = 0; i < 60; i++) {
-                held("enter", s, random.nextInt(200), random.nextInt(run % 4 == 1 ? 10 : 101));
+            for (int i = 0; i < 12; i++) {
+                held("enter", s, random.nextInt(24), random.nextInt(run % 4 == 1 ? 10 : 101));
+            }
+            for (int at = 24; at < 192; at *= 2) {
+                held("copy", s, 0, s, at, at);
             }
         }
         for (int which = 0; which < 6; which++) {
@@ -73,7 +74,7 @@ public final class ModelTest {
     }
 
     private int one(int dice) {
-        int arches = Math.max(1, house.count(0));
+        int arches = Math.max(1, model.count(0));
         if (dice < 4) return held("arch", some(4));
         if (dice < 9) return dice % 2 == 0 ? held("set", some(arches), 0, some(5)) : held("set", some(arches), 1, some(2));
         if (dice < 19) return held("about", some(arches), some(8));
@@ -92,7 +93,7 @@ public final class ModelTest {
         if (dice < 78) return held("work", some(arches), 1 + some(30));
         if (dice < 82) return held("years", 1 + some(4));
         if (dice < 88) return held("row", some(200), some(4));
-        if (dice < 91) return held("roll", random.nextBoolean() ? house.count(4) : some(201), some(7));
+        if (dice < 91) return held("roll", random.nextBoolean() ? model.count(4) : some(201), some(7));
         if (dice < 93) return held("sum");
         if (dice < 96) return held("spent", some(20), some(2 + arches));
         return held("count", some(8));
@@ -103,7 +104,7 @@ public final class ModelTest {
         text.append(1 + random.nextInt(random.nextBoolean() ? 9999 : 60)).append(" for ");
         String end = WORDS[1 + random.nextInt(5)];
         text.append(end).append(end.equals("arch") ? " " + random.nextInt(4) : "");
-        int year = house.count(4);
+        int year = model.count(4);
         int from = Math.max(0, year + random.nextInt(8) - 4);
         text.append(random.nextBoolean() ? " from " + from : "");
         text.append(random.nextBoolean() ? " till " + (from + random.nextInt(12)) : "");
@@ -133,55 +134,21 @@ public final class ModelTest {
         }
         text = text.substring(0, Math.min(48, text.length()));
         held("trim", 0);
-        for (int at = 0; at < text.length(); at += 12) {
-            held("feed", four(text, at), four(text, at + 4), four(text, at + 8));
+        byte[] bytes = text.getBytes(StandardCharsets.ISO_8859_1);
+        for (int at = 0; at < bytes.length; at += 12) {
+            held("feed", Checks.four(bytes, at), Checks.four(bytes, at + 4), Checks.four(bytes, at + 8));
         }
         held("trim", text.length());
         return held("gift");
     }
 
-    private static int four(String text, int at) {
-        int number = 0;
-        for (int i = at; i < at + 4; i++) {
-            number = number << 8 | (i < text.length() ? text.charAt(i) : 0);
-        }
-        return number;
-    }
-
     private int held(String name, int... v) {
-        StringBuilder call = new StringBuilder(name).append(java.util.Arrays.toString(v));
+        Call call = new Call(name, v);
         int want = ofModel(name, v);
-        int got = ofHouse(name, v);
-        told.add(call.append(" ").append(got).toString());
-        Checks.due(call.toString(), got, want);
+        int got = call.on(house);
+        past.add(call);
+        Checks.due(call.told(), got, want);
         return got;
-    }
-
-    private int ofHouse(String name, int[] v) {
-        return switch (name) {
-            case "arch" -> house.arch(v[0]);
-            case "set" -> house.set(v[0], v[1], v[2]);
-            case "about" -> house.about(v[0], v[1]);
-            case "isOf" -> house.isOf(v[0], v[1]);
-            case "sheet" -> house.sheet(v[0], v[1], v[2]);
-            case "enter" -> house.enter(v[0], v[1], v[2]);
-            case "copy" -> house.copy(v[0], v[1], v[2], v[3], v[4]);
-            case "lose" -> house.lose(v[0]);
-            case "feed" -> house.feed(v[0], v[1], v[2]);
-            case "trim" -> house.trim(v[0]);
-            case "gift" -> house.gift();
-            case "purse" -> house.purse(v[0], v[1]);
-            case "funds" -> house.funds(v[0]);
-            case "rule" -> house.rule(v[0], v[1]);
-            case "spend" -> house.spend(v[0], v[1]);
-            case "work" -> house.work(v[0], v[1]);
-            case "years" -> house.years(v[0]);
-            case "row" -> house.row(v[0], v[1]);
-            case "roll" -> house.roll(v[0], v[1]);
-            case "sum" -> house.sum();
-            case "spent" -> house.spent(v[0], v[1]);
-            default -> house.count(v[0]);
-        };
     }
 
     private int ofModel(String name, int[] v) {
