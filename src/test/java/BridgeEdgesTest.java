@@ -34,6 +34,8 @@ public final class BridgeEdgesTest {
         isOfRefusals();
         wearWithHouses();
         scourIsCut();
+        stoneIsCutTwice();
+        lossesEndAt0();
         blockedWater();
         countedOnce();
         asLossesBegan();
@@ -252,12 +254,37 @@ public final class BridgeEdgesTest {
             r.does("enter", 0, 0, floods[i]).due(10 + floods[i], "about", 0, LOSS).due(5 + ofStone[i], "about", 1, LOSS);
             r.due(25 + floods[i], "about", 2, LOSS).due(50 + floods[i], "about", 3, LOSS);
         }
-        r.does("set", 2, WHEEL, 1);
-        int[] withWheel = {9, 10, 19, 20};
-        int[] scour = {9, 11, 20, 22};
+        Run cut = new Run("/ cuts").arches(0).does("set", 0, WHEEL, 1).does("sheet", 0, 2, 1);
+        int[] withWheel = {1, 9, 10, 19, 20, 999, 1000};
+        int[] scour = {1, 9, 11, 20, 22, 1098, 1100};
         for (int i = 0; i < withWheel.length; i++) {
-            r.does("enter", 0, 0, withWheel[i]).due(10 + scour[i], "about", 0, LOSS).due(5 + scour[i] / 2, "about", 1, LOSS);
+            cut.does("enter", 0, 0, withWheel[i]).due(10 + scour[i], "about", 0, LOSS);
         }
+    }
+
+    private static void stoneIsCutTwice() {
+        Run r = new Run("of STONE half of that (cut).").arches(1, 0).does("set", 1, WHEEL, 1).does("sheet", 0, 2, 2);
+        int[] floods = {0, 1, 2, 9, 10, 18, 19, 20, 1000};
+        // With one wheel these make 0, 1, 2, 9, 11, 19, 20, 22, 1100.
+        int[] scour = {0, 0, 1, 4, 5, 9, 10, 11, 550};
+        for (int i = 0; i < floods.length; i++) {
+            r.does("enter", 0, 0, floods[i]).due(5 + scour[i], "about", 0, LOSS);
+        }
+        r.does("enter", 0, 1, 19).does("years", 1).due(985, "about", 0, STRENGTH).due(970, "about", 1, STRENGTH);
+    }
+
+    private static void lossesEndAt0() {
+        flooded("(0 at least.)", 1, 991, 0).does("years", 1).due(0, "about", 0, STRENGTH).gives(1, "1 for works")
+            .due(1, "work", 0, 1).due(6, "about", 0, STRENGTH);
+        Run r = flooded("(0 at least.)", 1, 1000, 3, 3, 3, 3, 3, 3, 3, 3, 3, 3);
+        for (int a = 0; a < 10; a++) {
+            r.does("set", a, HOUSES, 4).does("set", a, WHEEL, 1);
+        }
+        r.does("enter", 0, 0, 1000).due(2082, "about", 9, LOSS).does("years", 1);
+        for (int a = 0; a < 10; a++) {
+            r.due(0, "about", a, STRENGTH);
+        }
+        r.due(10, "count", 1).due(0, "count", 6);
     }
 
     private static void blockedWater() {

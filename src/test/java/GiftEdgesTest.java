@@ -22,6 +22,7 @@ public final class GiftEdgesTest {
         tillNotBelowTheYear();
         yearsNotTold();
         endsOfAGift();
+        partsThatMayBeLeftOut();
         archOfAGift();
         wordsAreWhole();
         endTooSoon();
@@ -45,6 +46,7 @@ public final class GiftEdgesTest {
         fundsOfEnds();
         fundsOfOpenOnes();
         servesEnds();
+        servesAnyArch();
         orderOfEnds();
         orderOfTills();
         firstOfLikeOnes();
@@ -172,6 +174,17 @@ public final class GiftEdgesTest {
         for (String end : new String[] {"work", "worksx", "al", "alll", "ALL", "All", "pooor", "por", "chapels", "arches",
             "Arch 0", "0", "for", "from", "yearly", "alm", "bll", "worlds"}) {
             r.gives(-106, "1 for " + end);
+        }
+    }
+
+    private static void partsThatMayBeLeftOut() {
+        Run r = new Run("N for END [ from Y ] [ till Y ] [ yearly ].").arches(0).passes(3);
+        for (int parts = 0; parts < 8; parts++) {
+            String text = ((parts & 1) == 0 ? "" : " from 5") + ((parts & 2) == 0 ? "" : " till 9") + ((parts & 4) == 0 ? "" : " yearly");
+            int from = (parts & 1) == 0 ? 3 : 5;
+            int till = (parts & 2) == 0 ? 200 : 9;
+            r.gives(1 + 2 * parts, "7 for poor" + text).purseIs(1 + 2 * parts, 2, from, till, from == 3 ? 7 : 0, parts / 4);
+            r.gives(2 + 2 * parts, "7 for arch 0" + text).purseIs(2 + 2 * parts, 4, from, till, from == 3 ? 7 : 0, parts / 4);
         }
     }
 
@@ -375,6 +388,16 @@ public final class GiftEdgesTest {
         r.due(1 + 4, "funds", 0).due(1 + 8, "funds", 1).due(1 + 2 + 16, "funds", 2).due(1 + 2 + 32, "funds", 3);
         r.passes(50).due(NO, "spend", 0, 6).due(5, "spend", 0, 5).due(NO, "spend", 1, 9).due(8, "spend", 1, 8);
         r.due(18, "work", 0, 99).due(32, "work", 1, 99).due(NO, "work", 0, 1).due(NO, "work", 1, 1).due(0, "sum");
+    }
+
+    private static void servesAnyArch() {
+        Run r = new Run("works: works at any ARCH; arch A: works at it.").arches(0).gives(1, "3 for works").gives(2, "5 for arch 0");
+        r.due(8, "funds", 2).due(BAD, "funds", 3).arches(1, 2, 3, 0, 1, 2, 3, 0, 1);
+        for (int a = 1; a < 10; a++) {
+            r.due(3, "funds", 2 + a);
+        }
+        r.due(0, "funds", 0).due(0, "funds", 1).passes(1).due(1, "work", 9, 1).due(2, "work", 8, 9).due(NO, "work", 1, 1);
+        r.due(2, "work", 0, 9).due(3, "purse", 2, COINS);
     }
 
     private static void orderOfEnds() {

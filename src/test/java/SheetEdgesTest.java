@@ -14,6 +14,7 @@ public final class SheetEdgesTest {
         threeWidths();
         placesOfASheet();
         badAheadOfSize();
+        sizeBelow0();
         allAre0();
         refusedSheetStays();
         placesToEnter();
@@ -83,6 +84,16 @@ public final class SheetEdgesTest {
         Run r = new Run("BAD: sheet, width, n above 200; SIZE.");
         r.due(BAD, "sheet", -1, BYTES, -1).due(BAD, "sheet", 4, BYTES, -1).due(BAD, "sheet", 0, -1, -1);
         r.due(BAD, "sheet", 0, 3, -1).due(SIZE, "sheet", 0, BYTES, -1).due(SIZE, "sheet", 3, INTS, -1).due(0, "count", 7);
+    }
+
+    private static void sizeBelow0() {
+        for (int s = 0; s < 4; s++) {
+            for (int width = 0; width < 3; width++) {
+                Run r = new Run("SIZE: a number of places is below 0.").due(SIZE, "sheet", s, width, LEAST);
+                r.due(SIZE, "sheet", s, width, -201).due(SIZE, "sheet", s, width, -1).due(0, "count", 7);
+                r.due(0, "sheet", s, width, 0).due(1, "count", 7);
+            }
+        }
     }
 
     private static void allAre0() {

@@ -39,6 +39,7 @@ public final class SpendingEdgesTest {
         rentForEachHouse();
         rentAheadOfLosses();
         keepingBehindAllElse();
+        whoComesTo0();
         keepingLeavesTheFallen();
         noCrews();
         asManyTimesAsCrews();
@@ -286,6 +287,14 @@ public final class SpendingEdgesTest {
         r.gives(1, "9 for works from 2 till 2").gives(2, "9 for works till 1").does("years", 1);
         // 22 are lacking: 4 coins of the gift that began with the year, none of the one that lapsed as it began.
         r.due(1000, "about", 0, STRENGTH).rowIs(1, 2, 1, 2, 4).due(2, "count", 3).due(9, "roll", 2, LAPSED).due(4, "roll", 2, WORKS);
+    }
+
+    private static void whoComesTo0() {
+        Run r = new Run("(4) Losses; who comes to 0 is FALLEN.").arches(0, 0, 1).does("sheet", 0, 1, 4).does("enter", 0, 3, 969);
+        r.does("set", 0, 0, 1).does("years", 2).due(0, "count", 1).due(972, "about", 0, STRENGTH).due(980, "about", 1, STRENGTH);
+        // 972 less 14 and 969 is below 0; 980 less 979 leaves 1, and the next year takes it.
+        r.does("years", 1).due(1, "about", 0, IS_FALLEN).due(0, "about", 1, IS_FALLEN).due(1, "about", 1, STRENGTH);
+        r.due(1, "count", 1).due(0, "count", 6).does("years", 1).due(2, "count", 1).due(0, "about", 1, STRENGTH);
     }
 
     private static void keepingLeavesTheFallen() {
