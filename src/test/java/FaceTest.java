@@ -20,8 +20,11 @@ public final class FaceTest {
     private static final String FACE = "arch/1 set/3 about/2 isOf/2 sheet/3 enter/3 copy/5 lose/1 feed/3 trim/1 gift/0 "
         + "purse/2 funds/1 rule/2 spend/2 work/2 years/1 row/2 roll/2 sum/0 spent/2 count/1";
     private static final String CONSTANTS = "BAD NO FULL NONE NOTHING INDEX SIZE";
-    private static final List<String> RULED_OUT = List.of("throw", "try", "catch", "throws", "synchronized", "assert",
-        "import", "package", "protected", "->", "::", "Exact", "hashCode", "toString", "double", "float", "var");
+    private static final List<String> RULED_OUT = List.of("throw", "try", "catch", "finally", "throws", "synchronized",
+        "assert", "import", "package", "protected", "native", "volatile", "->", "::", "Exact", "hashCode", "toString",
+        "equals", "getClass", "Object", "Thread", "double", "float", "var", "java.", "static {", "@");
+
+    private static final Set<String> LIBRARY = Set.of("System.arraycopy", "Math.max", "Math.min");
 
     private FaceTest() {
     }
@@ -78,10 +81,15 @@ public final class FaceTest {
                 Modifier.isPublic(m.getModifiers()) || Modifier.isPrivate(m.getModifiers()));
         }
         for (Field f : BridgeHouse.class.getDeclaredFields()) {
-            boolean isConstant = Modifier.isStatic(f.getModifiers()) && Modifier.isFinal(f.getModifiers());
-            Checks.holds(f.getName() + " is a constant or private", isConstant || Modifier.isPrivate(f.getModifiers()));
-            Checks.holds(f.getName() + " is not static state", !Modifier.isStatic(f.getModifiers()) || isConstant);
+            Checks.holds(f.getName() + " is public or private",
+                Modifier.isPublic(f.getModifiers()) || Modifier.isPrivate(f.getModifiers()));
+            noStaticState(f);
         }
+    }
+
+    private static void noStaticState(Field f) {
+        boolean isConstant = Modifier.isFinal(f.getModifiers()) && f.getType() == int.class;
+        Checks.holds(f.getName() + " is not static state", !Modifier.isStatic(f.getModifiers()) || isConstant);
     }
 
     private static void classesInside() {
@@ -93,7 +101,12 @@ public final class FaceTest {
         }
         for (Class<?> c : inside) {
             Checks.holds(c.getName() + " is static", Modifier.isStatic(c.getModifiers()));
+            Checks.holds(c.getName() + " is not seen from outside",
+                !Modifier.isPublic(c.getModifiers()) && !Modifier.isProtected(c.getModifiers()));
             Checks.holds(c.getName() + " has at most twenty fields", c.getDeclaredFields().length <= 20);
+            for (Field f : c.getDeclaredFields()) {
+                noStaticState(f);
+            }
             for (Method m : c.getDeclaredMethods()) {
                 Checks.holds(m.getName() + " bears no public name", !face.contains(m.getName()));
                 Checks.holds(m.getName() + " takes at most seven", m.getParameterCount() <= 7);
@@ -113,9 +126,14 @@ public final class FaceTest {
     private static void words() throws IOException {
         String text = source();
         for (String word : RULED_OUT) {
-            boolean isWord = Character.isLetter(word.charAt(0)) && !word.equals("Exact");
+            boolean isWord = word.chars().allMatch(Character::isLetter) && !word.equals("Exact");
             Matcher m = Pattern.compile(isWord ? "\\b" + word + "\\b" : Pattern.quote(word)).matcher(text);
             Checks.holds("no '" + word + "'", !m.find());
+        }
+        // Whatever else of the library is called by its class's name.
+        Matcher m = Pattern.compile("\\b(System|Math|Arrays|Integer|Long|String|StringBuilder)\\.(\\w+)").matcher(text);
+        while (m.find()) {
+            Checks.holds("the library has " + m.group(), LIBRARY.contains(m.group()));
         }
         Checks.holds("signs are 1 to 127", text.chars().allMatch(c -> c > 0 && c < 128));
         Checks.holds("no text is joined by +", !text.contains("\" +") && !text.contains("+ \""));
